@@ -7,6 +7,9 @@ public final class PlanTests {
         givenPrecedences();
         impossible();
         eightTasks();
+        betterButTooLate();
+        betterByOne();
+        inBestFirst();
         inBestInputs();
         drawn();
         drawnGoesOn();
@@ -92,6 +95,39 @@ public final class PlanTests {
         best(x, 400, 4, 200, 1, 50, 2, 100, 3, 150, 5, 250, 6, 300, 7, 350, 0, 0);
     }
 
+    /** The row 1, 2, 0 would be over at 10, but with 0 behind its due date; no rule tells so. */
+    private static void betterButTooLate() {
+        EdgeTasks x = new EdgeTasks();
+        x.addTask(0, 5, 8, 2);
+        x.addTask(0, 0, 100, 4);
+        x.addTask(0, 0, 100, 4);
+        best(x, 11, 1, 5, 0, 0, 2, 7);
+        x.setDates(0, 5, 10);
+        best(x, 10, 2, 8, 0, 0, 1, 4);
+        x.begin(1);
+        x.addTask(0, 0, 100, 4);
+        x.addTask(0, 0, 100, 4);
+        x.addTask(0, 5, 8, 2);
+        best(x, 11, 0, 0, 2, 7, 1, 5);
+    }
+
+    private static void betterByOne() {
+        EdgeTasks x = new EdgeTasks();
+        x.addTask(0, 1, 100, 4);
+        x.addTask(0, 0, 100, 4);
+        best(x, 8, 1, 4, 0, 0);
+        x.setDates(1, 1, 100);
+        best(x, 9, 0, 1, 1, 5);
+    }
+
+    private static void inBestFirst() {
+        EdgeTasks x = new EdgeTasks();
+        x.addTask(0, 5, 100, 2);
+        Check.same("start, before makespan was asked for", x.inBest(0, 1), 5);
+        x.setDates(0, 6, 100);
+        Check.same("start then", x.inBest(0, 1), 6);
+    }
+
     private static void inBestInputs() {
         EdgeTasks x = new EdgeTasks();
         x.addTask(0, 0, 9, 4);
@@ -109,6 +145,11 @@ public final class PlanTests {
         EdgeTasks x = new EdgeTasks();
         x.addTask(0, 0, 100, 3);
         Check.same("one task", x.drawn(999999, 1), 3);
+        x.setDates(0, 0, 3);
+        Check.same("just at its due date", x.drawn(999999, 1), 3);
+        x.setDates(0, 0, 2);
+        Check.same("too late", x.drawn(999999, 1), EdgeTasks.NONE);
+        x.setDates(0, 0, 100);
         x.addTask(0, 5, 100, 2);
         Check.same("second task first", x.drawn(5, 1), 10);
         x.give(0, 1, true);

@@ -8,6 +8,8 @@ public final class ReasoningTests {
         pairs();
         setBeforeTask();
         taskBeforeSet();
+        firstTaskAgainstSet();
+        rowOverFirstTask();
         rowsOverMachines();
         reasonsInOrder();
         contradictions();
@@ -140,6 +142,34 @@ public final class ReasoningTests {
         bounds(x, 8, 20, 8, 19, 0, 12);
         x.setDates(0, 7, 20);
         reasons(x, 2, 0, -1, -1);
+    }
+
+    /** The same, with the task 0 alone against the set {1, 2}. */
+    private static void firstTaskAgainstSet() {
+        EdgeTasks x = new EdgeTasks();
+        x.addTask(0, 0, 30, 3);
+        x.addTask(0, 1, 10, 4);
+        x.addTask(0, 2, 10, 4);
+        bounds(x, 9, 30, 1, 10, 2, 10);
+        reasons(x, 1, 0, 1, 6);
+        x.begin(1);
+        x.addTask(0, 0, 20, 5);
+        x.addTask(0, 8, 20, 4);
+        x.addTask(0, 8, 19, 4);
+        bounds(x, 0, 12, 8, 20, 8, 19);
+        reasons(x, 0, 2, 1, 6);
+    }
+
+    /** Rule 1 over the task 0, by which the bounds change, too. */
+    private static void rowOverFirstTask() {
+        EdgeTasks x = Check.machines(2);
+        x.addTask(1, 0, 100, 5);
+        x.addTask(0, 0, 100, 7);
+        x.addTask(0, 0, 100, 3);
+        x.give(1, 0, true);
+        x.give(0, 2, true);
+        reasons(x, 1, 2, 3, -1);
+        bounds(x, 7, 97, 0, 92, 12, 100);
     }
 
     /** Rule 1 alone tells that 0 precedes 2, and it does not make it a given precedence. */

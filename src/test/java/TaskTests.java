@@ -117,6 +117,8 @@ public final class TaskTests {
         Check.badState(x, "the other way round", () -> x.give(1, 0, true));
         Check.badState(x, "take the other way round", () -> x.give(1, 0, false));
         Check.same("taken away", x.give(0, 1, false), 0);
+        Check.same("not before", x.task(0, 5), 0);
+        Check.same("not behind", x.task(1, 4), 0);
         Check.same("then the other way round", x.give(1, 0, true), 1);
         x.undo();
         x.undo();
@@ -135,6 +137,10 @@ public final class TaskTests {
         Check.same("break the row", x.give(3, 4, false), 7);
         Check.badState(x, "still given directly", () -> x.give(7, 0, true));
         Check.same("behind the break", x.give(4, 3, true), 8);
+        EdgeTasks y = free(3);
+        y.give(1, 0, true);
+        y.give(0, 2, true);
+        Check.badState(y, "against a row over 0", () -> y.give(2, 1, true));
     }
 
     private static void giveDominance() {

@@ -9,6 +9,7 @@ public final class TextTests {
         bytesThatCannotStand();
         textsThatEndTooEarly();
         numbersOutOfRange();
+        bytesOfAnEarlierText();
         fullText();
         Check.end();
     }
@@ -163,6 +164,17 @@ public final class TextTests {
         fault("t0:0-9*510;", 9);
         fault("t0:201-401*51;", 3);
         fault("t0:0-9*1;t0:0-9*1;t0:0-9*0;", 25);
+    }
+
+    private static void bytesOfAnEarlierText() {
+        EdgeTasks x = Check.machines(3);
+        Check.write(x, "p01;p01;t0:0-9*1;");
+        x.clearText();
+        Check.write(x, "p01");
+        Check.same("ends too early, with a semicolon from before", x.carryOut(), -13);
+        x.clearText();
+        Check.write(x, "t0:0-9*1;");
+        Check.same("ends before the orders from before", x.carryOut(), 1);
     }
 
     private static void fullText() {

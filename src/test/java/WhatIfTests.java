@@ -178,6 +178,7 @@ public final class WhatIfTests {
             Check.outOfBounds(x, "dominates(" + t + ", 0)", () -> x.dominates(t, 0));
             Check.outOfBounds(x, "leastDue(" + t + ")", () -> x.leastDue(t));
             Check.outOfBounds(x, "refutes(0, " + t + ")", () -> x.refutes(0, t));
+            Check.outOfBounds(x, "refutes(" + t + ", 0)", () -> x.refutes(t, 0));
             Check.outOfBounds(x, "refutes(" + t + ", " + t + ")", () -> x.refutes(t, t));
         }
     }
