@@ -4,9 +4,23 @@ final class Check {
         void make();
     }
 
+    interface Setup {
+        EdgeTasks make();
+    }
+
+    interface On {
+        void call(EdgeTasks x);
+    }
+
     private static int wrong = 0;
+    private static String sentence = "";
 
     private Check() {
+    }
+
+    /** Names the sentence of the document that is tested from here on; it is told with each report. */
+    static void sentence(String words) {
+        sentence = words + ": ";
     }
 
     static void same(String what, long got, long want) {
@@ -62,6 +76,48 @@ final class Check {
         raises(x, what, IllegalStateException.class, call);
     }
 
+    /**
+     * Exactly this exception is due, and nothing at all may have changed: what stands, the saved states and the
+     * bytes of the text are compared with those of a twin on which the call was not made.
+     */
+    static void refused(Setup setup, String what, Class<?> exception, On call) {
+        EdgeTasks x = setup.make();
+        String got = "nothing";
+        try {
+            call.call(x);
+        } catch (RuntimeException e) {
+            got = e.getClass().getName();
+        }
+        same(what + " throws", got, exception.getName());
+        same("all that stands behind " + what, traceOf(x), traceOf(setup.make()));
+    }
+
+    /** The call throws nothing. */
+    static void taken(Setup setup, String what, On call) {
+        EdgeTasks x = setup.make();
+        String got = "nothing";
+        try {
+            call.call(x);
+        } catch (RuntimeException e) {
+            got = e.getClass().getName();
+        }
+        same(what + " throws", got, "nothing");
+    }
+
+    /** All that can be seen of an object, which is spent by it: each saved state, and what the text does. */
+    static String traceOf(EdgeTasks x) {
+        StringBuilder trace = new StringBuilder();
+        for (int k = 0; k < 6; k++) {
+            trace.append(x.digest()).append(' ').append(x.makespan()).append(' ');
+            try {
+                trace.append(x.undo()).append(' ');
+            } catch (IllegalStateException e) {
+                break;
+            }
+        }
+        return trace.append(x.carryOut()).append(' ').append(x.digest()).toString();
+    }
+
     /** A new object with these machines, no saved state but that of begin. */
     static EdgeTasks machines(int machines) {
         EdgeTasks x = new EdgeTasks();
@@ -100,7 +156,7 @@ final class Check {
     static void report(String text) {
         wrong++;
         if (wrong <= 40) {
-            System.out.println(text);
+            System.out.println(sentence + text);
         }
     }
 

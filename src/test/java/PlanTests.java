@@ -78,7 +78,7 @@ public final class PlanTests {
         best(x, 9, 1, 5, 0, 1);
         x.setDates(1, 2, 7);
         best(x, EdgeTasks.NONE, -1, -1, -1, -1);
-        Check.same("though no rule tells so", x.drawn(1, 50), EdgeTasks.NONE);
+        Check.same("drawn, not possible", x.drawn(1, 50), EdgeTasks.NONE);
     }
 
     private static void eightTasks() {
