@@ -423,7 +423,7 @@ public final class AnswerEdgeTests {
         return (x * 1103515245L + 12345L) % 2147483648L;
     }
 
-    /** The rows drawn here by the document's words; releases and durations differ, so that a makespan tells rows apart. */
+    /** The rows are drawn here once more; releases and durations differ, so that a makespan tells rows apart. */
     private static void drawnDraws() {
         Check.sentence("Promise 17: of the tasks whose given ones are in the row, the one with the index");
         for (int seed = 999900; seed <= 999999; seed++) {
