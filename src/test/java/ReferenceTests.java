@@ -7,6 +7,9 @@ public final class ReferenceTests {
     private static final int CALLS = 120;
     /** Some runs go on far beyond the 512 calls that an object is used for. */
     private static final int MANY_CALLS = 600;
+    /** Runs on objects side by side. */
+    private static final int GROUPS = 10;
+    private static final int GROUP = 10;
 
     private interface Answer {
         Object get();
@@ -33,9 +36,7 @@ public final class ReferenceTests {
 
     public static void main(String[] args) {
         for (int run = 0; run < RUNS; run++) {
-            ReferenceTests test = new ReferenceTests(run);
-            test.compare("begin(" + test.machines + ")", () -> test.x.begin(test.machines),
-                    () -> test.reference.begin(test.machines));
+            ReferenceTests test = begun(run);
             int calls = run % 100 == 99 ? MANY_CALLS : CALLS;
             for (int k = 0; k < calls; k++) {
                 if (!test.step(k)) {
@@ -43,10 +44,35 @@ public final class ReferenceTests {
                 }
             }
         }
+        for (int group = 0; group < GROUPS; group++) {
+            sideBySide(RUNS + group * GROUP);
+        }
         if (args.length > 0) {
             seen.forEach((what, count) -> System.out.println(what + " " + count));
         }
         Check.end();
+    }
+
+    private static ReferenceTests begun(int run) {
+        ReferenceTests test = new ReferenceTests(run);
+        test.compare("begin(" + test.machines + ")", () -> test.x.begin(test.machines),
+                () -> test.reference.begin(test.machines));
+        return test;
+    }
+
+    /** Several objects, on which the calls are made by turns. */
+    private static void sideBySide(int firstRun) {
+        ReferenceTests[] tests = new ReferenceTests[GROUP];
+        for (int k = 0; k < GROUP; k++) {
+            tests[k] = begun(firstRun + k);
+        }
+        for (int k = 0; k < CALLS; k++) {
+            for (ReferenceTests test : tests) {
+                if (!test.step(k)) {
+                    return;
+                }
+            }
+        }
     }
 
     private static String answer(Answer call) {
