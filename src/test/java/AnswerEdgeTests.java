@@ -155,6 +155,8 @@ public final class AnswerEdgeTests {
             for (int b = 0; b < a; b++) {
                 count--;
                 Check.same("taken away", x.give(a, b, false), count);
+                Check.same("those that precede " + b + " still", x.task(b, 4), (1 << a) - (2 << b));
+                Check.same("those that " + a + " precedes still", x.task(a, 5), (1 << a) - (2 << b));
             }
         }
         Check.same("none", x.value(2), 0);

@@ -47,7 +47,8 @@ public final class MeetingTests {
         "setDates(0, 0, 400)", "setDates(0, 5, 6)", "setDates(1, 3, 17)", "setDates(8, 0, 9)", "setDates(0, -1, 9)",
         "setDates(0, 0, 0)",
         "give(0, 1, true)", "give(1, 0, true)", "give(0, 1, false)", "give(1, 0, false)", "give(0, 0, true)",
-        "give(0, 2, true)", "give(2, 0, true)", "give(8, 0, false)", "giveDominance()",
+        "give(0, 2, true)", "give(2, 0, true)", "give(1, 2, true)", "give(2, 1, true)", "give(2, 1, false)",
+        "give(8, 0, false)", "giveDominance()",
         "append('x')", "append('p')", "append('5')", "append(';')", "append(-1)", "append(128)",
         "clearText()", "carryOut()", "undo()",
     };
@@ -56,7 +57,7 @@ public final class MeetingTests {
         "task(0, 5)", "task(0, 6)", "task(-1, 6)", "value(4)", "value(5)", "value(-1)", "firstStart(1)", "lastEnd(0)",
         "lastEnd(8)", "precedes(0, 1)", "why(1, 0)", "because(1, 0)", "because(0, 8)", "slack(0)", "slack(-1)",
         "makespan()", "inBest(1, 0)", "inBest(0, 2)", "inBest(8, 2)", "drawn(5, 3)", "drawn(0, 0)", "drawn(1000000, 1)",
-        "dominates(0, 1)", "dominates(8, 0)", "leastDue(0)", "leastDue(8)", "lowerBound()", "refutes(1, 0)",
+        "dominates(0, 1)", "dominates(2, 1)", "dominates(8, 0)", "leastDue(0)", "leastDue(8)", "lowerBound()", "refutes(1, 0)",
         "refutes(0, -1)", "decided()", "digest()",
     };
 
@@ -243,7 +244,7 @@ public final class MeetingTests {
         String[] all = new String[CHANGES.length + QUESTIONS.length];
         System.arraycopy(CHANGES, 0, all, 0, CHANGES.length);
         System.arraycopy(QUESTIONS, 0, all, CHANGES.length, QUESTIONS.length);
-        Check.same("calls in all, a prime so that each step reaches all", all.length, 67);
+        Check.same("calls in all, a prime so that each step reaches all", all.length, 71);
         for (int step = 1; step < all.length; step++) {
             Both both = new Both(new String[] {""});
             for (int k = 0; k < USE; k++) {

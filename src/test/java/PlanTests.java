@@ -9,6 +9,8 @@ public final class PlanTests {
         eightTasks();
         betterButTooLate();
         betterByOne();
+        overBeforeTheLastTask();
+        betterOnOneOfThreeMachines();
         inBestFirst();
         inBestInputs();
         drawn();
@@ -118,6 +120,31 @@ public final class PlanTests {
         best(x, 8, 1, 4, 0, 0);
         x.setDates(1, 1, 100);
         best(x, 9, 0, 1, 1, 5);
+    }
+
+    /** The makespan is reached before the row is: at 400, the latest of all, and at what is better by one. */
+    private static void overBeforeTheLastTask() {
+        EdgeTasks x = Check.machines(2);
+        for (int t = 0; t < 4; t++) {
+            x.addTask(0, 200, 400, 50);
+        }
+        x.addTask(1, 0, 400, 50);
+        best(x, 400, 0, 200, 1, 250, 2, 300, 3, 350, 4, 0);
+        x.begin(2);
+        x.addTask(0, 1, 100, 4);
+        x.addTask(0, 0, 100, 4);
+        x.addTask(1, 0, 100, 1);
+        best(x, 8, 1, 4, 0, 0, 2, 0);
+    }
+
+    /** The row 0, 1, 2, 3 is over at 11; what is to come on the other machines does not hold up the better one. */
+    private static void betterOnOneOfThreeMachines() {
+        EdgeTasks x = Check.machines(3);
+        x.addTask(0, 5, 100, 2);
+        x.addTask(0, 0, 100, 4);
+        x.addTask(1, 0, 100, 9);
+        x.addTask(2, 0, 100, 9);
+        best(x, 9, 1, 5, 0, 0, 2, 0, 3, 0);
     }
 
     private static void inBestFirst() {

@@ -635,5 +635,24 @@ public final class TermsEdgeTests {
         dominance("more before 0", given(2, 0, 2, 1, 3, 0), false, true);
         dominance("more behind 0", given(0, 2, 1, 2, 0, 3), true, false);
         dominance("more behind 1", given(0, 2, 1, 2, 1, 3), false, true);
+        for (int a = 0; a < 8; a++) {
+            for (int b = 0; b < 8; b++) {
+                if (a != b) {
+                    givenAside(a, b);
+                }
+            }
+        }
+    }
+
+    /** Eight tasks that are alike but for a precedence of one before another one, which is aside for both. */
+    private static void givenAside(int a, int b) {
+        EdgeTasks x = new EdgeTasks();
+        for (int t = 0; t < 8; t++) {
+            x.addTask(0, 5, 50, 1);
+        }
+        Check.same("dominates(" + a + ", " + b + ")", x.dominates(a, b), a < b);
+        x.give(a, b, true);
+        Check.same("dominates(" + a + ", " + b + "), given", x.dominates(a, b), a < b);
+        Check.same("dominates(" + b + ", " + a + "), given the other way round", x.dominates(b, a), false);
     }
 }
